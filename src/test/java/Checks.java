@@ -1,0 +1,50 @@
+/** Counts the answers of one test that are not as due. */
+final class Checks {
+    private int asked = 0;
+    private int wrong = 0;
+
+    void due(String call, long got, long want) {
+        asked++;
+        if (got != want) {
+            wrong++;
+            System.out.println(call + " answered " + got + ", due is " + want);
+        }
+    }
+
+    void due(String call, boolean got, boolean want) {
+        due(call, got ? 1 : 0, want ? 1 : 0);
+    }
+
+    void noPlaceOrThing(String call, Runnable run) {
+        thrown(call, IndexOutOfBoundsException.class, run);
+    }
+
+    void outOfRange(String call, Runnable run) {
+        thrown(call, IllegalArgumentException.class, run);
+    }
+
+    void notNow(String call, Runnable run) {
+        thrown(call, IllegalStateException.class, run);
+    }
+
+    private void thrown(String call, Class<?> want, Runnable run) {
+        asked++;
+        Class<?> got = null;
+        try {
+            run.run();
+        } catch (RuntimeException e) {
+            got = e.getClass();
+        }
+        if (got != want) {
+            wrong++;
+            System.out.println(call + " threw " + got + ", due is " + want);
+        }
+    }
+
+    void end(String test) {
+        System.out.println(test + ": " + asked + " answers, " + wrong + " not as due");
+        if (wrong != 0 || asked == 0) {
+            System.exit(1);
+        }
+    }
+}
