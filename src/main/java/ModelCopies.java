@@ -115,7 +115,7 @@ public final class ModelCopies {
             throw new IllegalStateException("as many letters were written as can be");
         }
         letters.add(new Letter(place, was, now));
-        corrector.hasLetters[number] = true;
+        corrector.take(number);
         corrected.readings[place] = now;
         findFamiliesAnew();
         return number;
@@ -128,8 +128,8 @@ public final class ModelCopies {
             throw new IllegalStateException("the copy is not in the house");
         }
         int changes = 0;
-        for (int number = 0; number < letters.size() && number < MOST_LETTERS; number++) {
-            if (corrector.hasLetters[number] && letters.get(number).changes(corrected)) {
+        for (int number = 0; number < letters.size(); number++) {
+            if (corrector.holds(number) && letters.get(number).changes(corrected)) {
                 changes++;
             }
         }
@@ -304,7 +304,7 @@ public final class ModelCopies {
     public boolean hasLetter(int house, int letter) throws IndexOutOfBoundsException {
         House asked = findHouse(house);
         requireLetter(letter);
-        return asked.hasLetters[letter];
+        return asked.holds(letter);
     }
 
     public int letter(int letter) throws IndexOutOfBoundsException {
@@ -334,7 +334,7 @@ public final class ModelCopies {
         return findHouse(house).laidDown;
     }
 
-    // ---- what a call asks for first
+    // ---- behind the interface: what calls ask for first
 
     private Copy findCopy(int number) {
         if (number < 0 || number >= copies.size()) {
@@ -386,7 +386,7 @@ public final class ModelCopies {
         return copy == null ? NO_COPY : copy.number;
     }
 
-    // ---- families as they are kept
+    // ---- behind the interface: families as they are kept
 
     /** Joins a copy, alone as yet, to its kin among the copies before it; those have their families by then. */
     private void enterFamily(Copy copy) {
@@ -417,7 +417,7 @@ public final class ModelCopies {
         }
     }
 
-    // ---- families from all errors at once; a set of copies is a long, as 40 copies are fewer than its bits
+    // ---- behind the interface: families from all errors at once; a set of copies is a long, as it has bits enough
 
     private static long setOf(Copy copy) {
         return 1L << copy.number;
@@ -469,7 +469,7 @@ public final class ModelCopies {
         return kin;
     }
 
-    // ---- guesses
+    // ---- behind the interface: guesses
 
     /** The copy that is guessed as the model; null for the copy 0, which has none before it. */
     private Copy guessFor(Copy copy) {
@@ -546,7 +546,7 @@ public final class ModelCopies {
 
     private static final class House {
         final int number;
-        final boolean[] hasLetters = new boolean[MOST_LETTERS];
+        final boolean[] held = new boolean[MOST_LETTERS];
         int coins = COINS_AT_FIRST;
         int laidDown = 0;
 
@@ -554,10 +554,20 @@ public final class ModelCopies {
             this.number = number;
         }
 
+        boolean holds(int letter) {
+            return letter >= 0 && letter < MOST_LETTERS && held[letter];
+        }
+
+        void take(int letter) {
+            if (letter >= 0 && letter < MOST_LETTERS) {
+                held[letter] = true;
+            }
+        }
+
         void takeLettersOf(House other) {
             for (int letter = 0; letter < MOST_LETTERS; letter++) {
-                if (other.hasLetters[letter]) {
-                    hasLetters[letter] = true;
+                if (other.holds(letter)) {
+                    take(letter);
                 }
             }
         }

@@ -57,6 +57,11 @@ public final class FamiliesTest {
         dueFamilies("told at once", x, 0, 0, 2, 2);
         x.tellModel(2);
         dueFamilies("told later", x, 0, 0, 0, 0);
+        ModelCopies y = new ModelCopies();
+        copyWith(y, 0, false, 0, 1);
+        copyWith(y, 0, false, 5, 5);
+        copyWith(y, 2, true, 5, 0, 0, 1);
+        dueFamilies("the copy 2 is kin to 1 by the copy of which it is the told model", y, 0, 1, 1, 1);
     }
 
     private static void familiesPartByCorrections() {
