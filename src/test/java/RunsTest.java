@@ -132,7 +132,8 @@ public final class RunsTest {
                 int house = houseWith(one);
                 boolean isTold = draw(8) == 0;
                 checks.due(where + "copy(" + one + ", " + scribe + ", " + house + ", " + isTold + ")",
-                        answerOf(() -> copies.copy(one, scribe, house, isTold)), plain.copy(one, scribe, house, isTold));
+                        answerOf(() -> copies.copy(one, scribe, house, isTold)),
+                        plain.copy(one, scribe, house, isTold));
             }
             case 2 -> checks.due(where + "tellModel(" + one + ")",
                     answerOf(() -> copies.tellModel(one)), plain.tellModel(one));
