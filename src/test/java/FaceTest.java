@@ -1,55 +1,80 @@
+import java.io.IOException;
 import java.lang.reflect.Constructor;
 import java.lang.reflect.Field;
 import java.lang.reflect.Method;
 import java.lang.reflect.Modifier;
+import java.nio.file.Files;
+import java.nio.file.Path;
+import java.util.ArrayList;
+import java.util.List;
+import java.util.Map;
 import java.util.Set;
 import java.util.TreeSet;
+import java.util.regex.Matcher;
+import java.util.regex.Pattern;
 
-/** The public face of the document, and what rules 1 and 5 of LANGUAGE.md ask of members. */
+/** The public face as it stands in the document, and what rules 1 and 5 of LANGUAGE.md ask of members. */
 public final class FaceTest {
-    private static final String[] FACE = {
-        "slip(int,int)int IndexOutOfBounds IllegalArgument IllegalState",
-        "copy(int,int,int,boolean)int IndexOutOfBounds IllegalState",
-        "tellModel(int)int IndexOutOfBounds IllegalState",
-        "pass(int)int IllegalArgument IllegalState",
-        "correct(int,int,int,int)int IndexOutOfBounds IllegalState",
-        "workIn(int,int)int IndexOutOfBounds IllegalState",
-        "lend(int,int,int,int)int IndexOutOfBounds IllegalArgument IllegalState",
-        "giveBack(int)int IndexOutOfBounds IllegalState",
-        "day()int",
-        "copies()int",
-        "reading(int,int)int IndexOutOfBounds",
-        "errors(int)int IndexOutOfBounds",
-        "shared(int,int)int IndexOutOfBounds",
-        "houseOf(int)int IndexOutOfBounds",
-        "ownerOf(int)int IndexOutOfBounds",
-        "toldModel(int)int IndexOutOfBounds",
-        "slips(int)int IndexOutOfBounds",
-        "family(int)int IndexOutOfBounds",
-        "familyByErrors(int)int IndexOutOfBounds",
-        "families()int",
-        "guess(int)int IndexOutOfBounds",
-        "rightGuesses()int",
-        "spread(int,int)int IndexOutOfBounds IllegalArgument",
-        "sources(int,int)int IndexOutOfBounds IllegalArgument",
-        "letters()int",
-        "hasLetter(int,int)boolean IndexOutOfBounds",
-        "letter(int)int IndexOutOfBounds",
-        "loans()int",
-        "isBack(int)boolean IndexOutOfBounds",
-        "late(int)int IndexOutOfBounds",
-        "coins(int)int IndexOutOfBounds",
-        "laidDown(int)int IndexOutOfBounds",
-    };
+    private static final Path CLASS = Path.of("src", "main", "java", "ModelCopies.java");
+    private static final Pattern METHOD = Pattern.compile(
+            "public (?<type>\\w+) (?<name>\\w+)\\((?<parameters>.*?)\\)(?: throws (?<thrown>.*))?");
 
+    private static final Document document = Document.read();
     private static final Checks checks = new Checks();
 
-    public static void main(String[] args) {
+    public static void main(String[] args) throws IOException {
+        theSourceHasTheFaceAsItStands();
         publicMethods();
         noOtherMembers();
         noPrivateMethodBearsAPublicName();
         staticFieldsAreFinal();
         checks.end("FaceTest");
+    }
+
+    /** The parameters' names, the order of the calls and what is said ahead of them are in the source alone. */
+    private static void theSourceHasTheFaceAsItStands() throws IOException {
+        String source = Files.readString(CLASS).replaceAll("\\s+", " ");
+        int from = 0;
+        for (String line : document.face()) {
+            int at = source.indexOf(" " + line + " {", from);
+            checks.due("the source has, in its turn, " + line, at >= from, true);
+            from = Math.max(at, from);
+        }
+        List<String> inOrder = new ArrayList<>();
+        for (Map.Entry<String, List<String>> heading : document.headings().entrySet()) {
+            String first = heading.getValue().get(0);
+            Matcher found = Pattern.compile("// " + Pattern.quote(heading.getKey()) + " public \\w+ (\\w+)\\(")
+                    .matcher(source);
+            checks.due("ahead of " + first + " stands " + heading.getKey(),
+                    found.find() && found.group(1).equals(first), true);
+            inOrder.addAll(heading.getValue());
+        }
+        checks.due("the headings stand ahead of all calls, in their order", inOrder.equals(names()), true);
+    }
+
+    private static List<String> names() {
+        List<String> names = new ArrayList<>();
+        for (String line : document.face()) {
+            Matcher method = METHOD.matcher(line);
+            if (method.matches()) {
+                names.add(method.group("name"));
+            }
+        }
+        return names;
+    }
+
+    private static Set<String> face() {
+        Set<String> face = new TreeSet<>();
+        for (String line : document.face()) {
+            Matcher method = METHOD.matcher(line);
+            if (method.matches()) {
+                String types = method.group("parameters").replaceAll(" \\w+(, )?", ",").replaceFirst(",$", "");
+                String thrown = method.group("thrown") == null ? "" : " " + method.group("thrown");
+                face.add(method.group("name") + "(" + types + ")" + method.group("type")
+                        + thrown.replace(",", "").replace("Exception", ""));
+            }
+        }
+        return face;
     }
 
     private static String textOf(Method method) {
@@ -65,7 +90,8 @@ public final class FaceTest {
     }
 
     private static void publicMethods() {
-        Set<String> due = new TreeSet<>(Set.of(FACE));
+        Set<String> due = face();
+        checks.due("methods of the face", due.size(), document.face().size() - 1);
         Set<String> seen = new TreeSet<>();
         for (Method method : ModelCopies.class.getDeclaredMethods()) {
             if (Modifier.isPublic(method.getModifiers())) {
@@ -105,10 +131,7 @@ public final class FaceTest {
     }
 
     private static void noPrivateMethodBearsAPublicName() {
-        Set<String> names = new TreeSet<>();
-        for (String text : FACE) {
-            names.add(text.substring(0, text.indexOf('(')));
-        }
+        List<String> names = names();
         for (Method method : ModelCopies.class.getDeclaredMethods()) {
             checks.due(method.getName() + " is private under a public name",
                     Modifier.isPrivate(method.getModifiers()) && names.contains(method.getName()), false);
