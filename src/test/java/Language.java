@@ -1,3 +1,4 @@
+import com.sun.source.tree.ArrayAccessTree;
 import com.sun.source.tree.AssertTree;
 import com.sun.source.tree.BinaryTree;
 import com.sun.source.tree.BlockTree;
@@ -10,6 +11,7 @@ import com.sun.source.tree.EnhancedForLoopTree;
 import com.sun.source.tree.ExpressionTree;
 import com.sun.source.tree.ForLoopTree;
 import com.sun.source.tree.IdentifierTree;
+import com.sun.source.tree.InstanceOfTree;
 import com.sun.source.tree.LambdaExpressionTree;
 import com.sun.source.tree.LiteralTree;
 import com.sun.source.tree.MemberReferenceTree;
@@ -22,11 +24,13 @@ import com.sun.source.tree.SynchronizedTree;
 import com.sun.source.tree.ThrowTree;
 import com.sun.source.tree.Tree;
 import com.sun.source.tree.TryTree;
+import com.sun.source.tree.TypeCastTree;
 import com.sun.source.tree.VariableTree;
 import com.sun.source.tree.WhileLoopTree;
 import com.sun.source.util.JavacTask;
 import com.sun.source.util.TreePath;
 import com.sun.source.util.TreePathScanner;
+import com.sun.source.util.TreeScanner;
 import com.sun.source.util.Trees;
 import java.io.IOException;
 import java.net.URI;
@@ -36,6 +40,7 @@ import java.util.LinkedHashSet;
 import java.util.List;
 import java.util.Map;
 import java.util.Set;
+import java.util.TreeSet;
 import javax.lang.model.element.Element;
 import javax.lang.model.element.ElementKind;
 import javax.lang.model.element.ExecutableElement;
@@ -46,6 +51,7 @@ import javax.lang.model.type.ArrayType;
 import javax.lang.model.type.DeclaredType;
 import javax.lang.model.type.TypeKind;
 import javax.lang.model.type.TypeMirror;
+import javax.tools.Diagnostic;
 import javax.tools.DiagnosticCollector;
 import javax.tools.JavaFileObject;
 import javax.tools.SimpleJavaFileObject;
@@ -54,7 +60,8 @@ import javax.tools.ToolProvider;
 /**
  * What in a source is outside LANGUAGE.md, as far as the source alone shows it. Where a rule leaves something only
  * under a condition that cannot be seen here (a recursion, a loop without a counter), that is told too: a class that
- * has none is surely within the rule.
+ * has none is surely within the rule. Of rule 7 it sees only whether an index, a divisor, a length or what is cast was
+ * looked at in its method at all, and not how.
  */
 final class Language extends TreePathScanner<Void, Void> {
     private static final int MOST_PARAMETERS = 7;
@@ -89,11 +96,16 @@ final class Language extends TreePathScanner<Void, Void> {
     private static final Set<String> PARENTS = Set.of("java.lang.Object", "java.lang.Record", "java.lang.Enum",
             "java.util.Iterator", "java.lang.Iterable", "java.lang.Comparable");
 
+    private static final Set<Tree.Kind> COMPARISONS = Set.of(Tree.Kind.LESS_THAN, Tree.Kind.LESS_THAN_EQUAL,
+            Tree.Kind.GREATER_THAN, Tree.Kind.GREATER_THAN_EQUAL, Tree.Kind.EQUAL_TO, Tree.Kind.NOT_EQUAL_TO);
+
     private final Trees trees;
     private final CompilationUnitTree unit;
     private final List<String> faults = new ArrayList<>();
     private final Map<Element, Set<Element>> calls = new LinkedHashMap<>();
     private int classes = 0;
+    /** The names that the method looked at so far, by comparing them or by handing them to a method of its own. */
+    private Set<String> lookedAt = new TreeSet<>();
 
     private Language(Trees trees, CompilationUnitTree unit) {
         this.trees = trees;
@@ -107,7 +119,7 @@ final class Language extends TreePathScanner<Void, Void> {
         try {
             CompilationUnitTree unit = task.parse().iterator().next();
             task.analyze();
-            if (!problems.getDiagnostics().isEmpty()) {
+            if (problems.getDiagnostics().stream().anyMatch(problem -> problem.getKind() == Diagnostic.Kind.ERROR)) {
                 throw new AssertionError(problems.getDiagnostics() + " in " + source);
             }
             Language language = new Language(Trees.instance(task), unit);
@@ -300,6 +312,9 @@ final class Language extends TreePathScanner<Void, Void> {
     public Void visitNewArray(NewArrayTree tree, Void none) {
         TypeMirror type = trees.getTypeMirror(getCurrentPath());
         faultIf(!isLeft(type), 3, tree, "the type " + type);
+        for (ExpressionTree length : tree.getDimensions()) {
+            faultIf(!isLookedAt(length), 7, tree, "the length of " + tree);
+        }
         return super.visitNewArray(tree, none);
     }
 
@@ -314,7 +329,12 @@ final class Language extends TreePathScanner<Void, Void> {
                 && !called.getModifiers().contains(Modifier.PRIVATE) && !called.getModifiers().contains(Modifier.STATIC)
                 && !called.getEnclosingElement().getModifiers().contains(Modifier.FINAL);
         faultIf(isInConstructor() && isOpen, 12, tree, "a constructor calls what can be overridden");
-        return super.visitMethodInvocation(tree, none);
+        lookAtIndexInLibrary(tree, called);
+        super.visitMethodInvocation(tree, none);
+        if (isOwn(called)) {
+            tree.getArguments().forEach(argument -> lookedAt.addAll(namesIn(argument)));
+        }
+        return null;
     }
 
     @Override
@@ -410,10 +430,57 @@ final class Language extends TreePathScanner<Void, Void> {
         return super.visitAssert(tree, none);
     }
 
-    // ---- rules 6, 10 and 11: methods and signs
+    // ---- rule 7: what is looked at before it is used
+
+    private static Set<String> namesIn(Tree tree) {
+        Set<String> names = new TreeSet<>();
+        new TreeScanner<Void, Void>() {
+            @Override
+            public Void visitIdentifier(IdentifierTree name, Void none) {
+                names.add(name.getName().toString());
+                return null;
+            }
+        }.scan(tree, null);
+        return names;
+    }
+
+    private boolean isLookedAt(ExpressionTree tree) {
+        TreePath path = new TreePath(getCurrentPath(), tree);
+        boolean isConstant = tree instanceof LiteralTree || trees.getElement(path) instanceof VariableElement variable
+                && variable.getConstantValue() != null;
+        return isConstant || !namesIn(tree).isEmpty() && lookedAt.containsAll(namesIn(tree));
+    }
+
+    @Override
+    public Void visitArrayAccess(ArrayAccessTree tree, Void none) {
+        faultIf(!isLookedAt(tree.getIndex()), 7, tree, "the index of " + tree);
+        return super.visitArrayAccess(tree, none);
+    }
+
+    private void lookAtIndexInLibrary(MethodInvocationTree tree, ExecutableElement called) {
+        boolean isOfIndex = Set.of("get", "set", "remove", "charAt", "setCharAt", "deleteCharAt")
+                .contains(called.getSimpleName().toString()) && !isOwn(called);
+        faultIf(isOfIndex && !isLookedAt(tree.getArguments().get(0)), 7, tree, "the index of " + tree);
+    }
+
+    @Override
+    public Void visitInstanceOf(InstanceOfTree tree, Void none) {
+        lookedAt.addAll(namesIn(tree.getExpression()));
+        return super.visitInstanceOf(tree, none);
+    }
+
+    @Override
+    public Void visitTypeCast(TypeCastTree tree, Void none) {
+        boolean isOfNumbers = typeOf(tree.getType()).getKind().isPrimitive();
+        faultIf(!isOfNumbers && !isLookedAt(tree.getExpression()), 7, tree, "the cast " + tree);
+        return super.visitTypeCast(tree, none);
+    }
+
+    // ---- rules 6, 7, 10 and 11: methods and signs
 
     @Override
     public Void visitMethod(MethodTree tree, Void none) {
+        lookedAt = new TreeSet<>();
         String name = tree.getName().toString();
         ExecutableElement element = (ExecutableElement) here();
         faultIf(Set.of("equals", "hashCode", "toString").contains(name), 6, tree, name);
@@ -440,9 +507,14 @@ final class Language extends TreePathScanner<Void, Void> {
                     "texts joined by +");
             case EQUAL_TO, NOT_EQUAL_TO -> faultIf(left.equals(right)
                     && Set.of("java.lang.String", "java.lang.Integer").contains(left), 6, tree, "== of two " + left);
+            case DIVIDE, REMAINDER -> faultIf(!isLookedAt(tree.getRightOperand()), 7, tree, "the divisor of " + tree);
             default -> { }
         }
-        return super.visitBinary(tree, none);
+        super.visitBinary(tree, none);
+        if (COMPARISONS.contains(tree.getKind())) {
+            lookedAt.addAll(namesIn(tree));
+        }
+        return null;
     }
 
     @Override

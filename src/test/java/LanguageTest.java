@@ -61,6 +61,15 @@ public final class LanguageTest {
         {"6", "private boolean f(String a, String b) { return a == b; }"},
         {"6", "private boolean f(Integer a, Integer b) { return a != b; }"},
         {"6", "private static class F extends RuntimeException { }"},
+        {"7", "private int f(int[] a, int i) { return a[i]; }"},
+        {"7", "private int f(int[] a, int i) { return a[i - 1] + (i > 0 ? 1 : 0); }"},
+        {"7", "private int f(ArrayList<Integer> a, int i) { return a.get(i); }"},
+        {"7", "private char f(String a, int i) { return a.charAt(i); }"},
+        {"7", "private int f(int a, int b) { return a / b; }"},
+        {"7", "private int f(int a, int b) { return a % b; }"},
+        {"7", "private int[] f(int length) { return new int[length]; }"},
+        {"7", "private interface F { } private static final class G implements F { }"
+            + " private G f(F f) { return (G) f; }"},
         {"8", "private int f(int i) { return i == 0 ? 0 : f(i - 1); }"},
         {"8", "private void f() { g(); } private void g() { f(); }"},
         {"9", "private void f() { while (true) { } }"},
@@ -95,6 +104,12 @@ public final class LanguageTest {
         "private int[] f(int[] a) { System.arraycopy(a, 0, a, 0, 0); Arrays.fill(a, 1); return a.clone(); }",
         "private int f() { try { return g(); } catch (IllegalStateException e) { return 1; } }"
             + " private int g() { throw new IllegalStateException(\"why\"); }",
+        "private int f(int[] a, int i) { return i >= 0 && i < a.length ? a[i] : 0; }",
+        "private int f(int[] a, int i) { return g(i) ? a[i] : 0; } private static boolean g(int i) { return i == 0; }",
+        "private static final int N = 3; private int f(int a, int b) { return a / N + (b == 0 ? 0 : a % b); }",
+        "private int[] f(int length) { return length < 0 ? null : new int[length]; }",
+        "private interface F { } private static final class G implements F { }"
+            + " private G f(F f) { return f instanceof G ? (G) f : null; } private int f(long n) { return (int) n; }",
         "private boolean f(String a, ModelCopies b) { return a == null || b == this || a.equals(\"\"); }",
         "private void f(int a, int b, int c, int d, int e, int f, int g) {" + "\n".repeat(59) + "}",
         numbered("private static final class F# { }", 11),
